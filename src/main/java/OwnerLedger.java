@@ -198,7 +198,7 @@ public final class OwnerLedger {
         requireRange(cents, 1, MOST_CENTS);
         long rest = cents;
         int paidUp = 0;
-        // Each turn pays one invoice up or uses up the rest, so more turns than invoices never come.
+        // Each turn pays an invoice up or uses up the rest, so a turn for each invoice is enough.
         for (int turn = 0; turn < MOST_INVOICES && rest > 0; turn++) {
             Invoice next = firstToPay(owner);
             if (next == null) {

@@ -63,6 +63,8 @@ public final class BooksTest {
         CHECK.refused("3: the currency before the room", Check.ARGUMENT, () -> x.account(0, 3));
         CHECK.refused("3: the owner before the room", Check.NO_SUCH, () -> x.account(2, 0));
         CHECK.due("3: twenty accounts stay", 20, () -> x.count(1));
+        CHECK.due("11: the last there can be", 0, () -> x.balance(19, 0));
+        CHECK.refused("11: behind the last", Check.NO_SUCH, () -> x.balance(20, 0));
     }
 
     private static void months() {
@@ -128,5 +130,7 @@ public final class BooksTest {
         CHECK.refused("6: the state before the room", Check.STATE, () -> x.batch(0));
         CHECK.refused("6: the range before the room", Check.ARGUMENT, () -> x.batch(3));
         CHECK.due("6: thirty batches stay", 30, () -> x.count(2));
+        CHECK.due("21: the last there can be", 1, () -> x.told(30, 1));
+        CHECK.refused("21: behind the last", Check.NO_SUCH, () -> x.told(31, 1));
     }
 }

@@ -67,6 +67,8 @@ public final class InvoicesTest {
             CHECK.due("13: invoice " + i, i, () -> x.invoice(0, 5, 0));
         }
         CHECK.refused("13: a 21st", Check.ROOM, () -> x.invoice(0, 5, 0));
+        CHECK.due("22: the last there can be", 5, () -> x.known(20, 0));
+        CHECK.refused("22: behind the last", Check.NO_SUCH, () -> x.known(21, 0));
         CHECK.refused("13: the hold before the room", Check.STATE, () -> x.invoice(1, 5, 0));
         CHECK.refused("13: the range before the room", Check.ARGUMENT, () -> x.invoice(0, 0, 0));
         CHECK.refused("13: the owner before the range", Check.NO_SUCH, () -> x.invoice(2, 0, 121));
