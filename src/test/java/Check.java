@@ -15,6 +15,10 @@ final class Check {
         void take();
     }
 
+    interface Use {
+        long on(OwnerLedger x);
+    }
+
     private int wrong;
 
     void due(String what, long want, Call call) {
@@ -46,7 +50,8 @@ final class Check {
         }
     }
 
-    private static String answerOf(Call call) {
+    /** What a call answers, or the name of what it throws. */
+    static String answerOf(Call call) {
         try {
             return String.valueOf(call.answer());
         } catch (RuntimeException e) {
