@@ -46,7 +46,29 @@ public final class FaceTest {
         Constructor<?>[] constructors = OwnerLedger.class.getDeclaredConstructors();
         check.same("constructors", "1", String.valueOf(constructors.length));
         check.same("the constructor", "public OwnerLedger()", constructors[0].toString());
+        checkClassesInside(check);
+        checkPrivateNames(check);
         check.end();
+    }
+
+    private static void checkClassesInside(Check check) {
+        for (Class<?> inside : OwnerLedger.class.getDeclaredClasses()) {
+            int modifiers = inside.getModifiers();
+            boolean hidden = !Modifier.isPublic(modifiers) && !Modifier.isProtected(modifiers);
+            check.same("class " + inside.getSimpleName() + " is hidden and static", "true",
+                    String.valueOf(hidden && Modifier.isStatic(modifiers)));
+        }
+    }
+
+    private static void checkPrivateNames(Check check) {
+        Set<String> faceNames = new TreeSet<>();
+        Set<String> privateNames = new TreeSet<>();
+        for (Method method : OwnerLedger.class.getDeclaredMethods()) {
+            boolean hidden = Modifier.isPrivate(method.getModifiers());
+            (hidden ? privateNames : faceNames).add(method.getName());
+        }
+        privateNames.retainAll(faceNames);
+        check.same("private methods that bear a public one's name", "[]", privateNames.toString());
     }
 
     private static Set<String> visibleMethods() {
